@@ -265,7 +265,7 @@ public final class UmbrellaLand {
 
     private static void checkWhat(int what, int many) {
         if (!isWithin(what, 0, many - 1)) {
-            throw new IndexOutOfBoundsException("what is not told");
+            throw new IndexOutOfBoundsException("nothing is told by this number");
         }
     }
 
@@ -277,7 +277,7 @@ public final class UmbrellaLand {
 
     private static void checkHours(int hours, int most) {
         if (!isWithin(hours, 1, most)) {
-            throw new IllegalArgumentException("hours is at least 1, and not so many");
+            throw new IllegalArgumentException("hours is less than 1, or too many");
         }
     }
 

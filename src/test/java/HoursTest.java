@@ -14,6 +14,7 @@ public final class HoursTest {
         forgettingEachThird();
         trustStaysWithinBounds();
         forgottenComesBackBeforeLeaving();
+        forgottenComesBackToItsShelter();
         cartHours();
         cartTies();
         cartTakesTheLeastWorn();
@@ -301,6 +302,24 @@ public final class HoursTest {
         Check.same("back in the hour 25 and taken at once", x.pass(1), 1);
         Check.same("twice taken", x.umbrella(0, 4), 2);
         Check.same("taken from the same", x.shelter(0, 4), 2);
+    }
+
+    private static void forgottenComesBackToItsShelter() {
+        UmbrellaLand x = new UmbrellaLand();
+        x.build(0, 0);
+        x.build(1, 0);
+        x.build(2, 0);
+        x.bring(2, 1);
+        x.addCitizen(2, 1, 1, 3, 1);
+        x.setRain(1, 2);
+        x.pass(2);
+        x.setRain(1, 0);
+        Check.same("forgotten on the way to 1", x.umbrella(0, 0), 2);
+        x.pass(24);
+        Check.same("in a shelter again", x.umbrella(0, 0), 0);
+        Check.same("back in 2", x.umbrella(0, 1), 2);
+        Check.same("with its wear", x.umbrella(0, 2), 2);
+        Check.same("waits no more", x.umbrella(0, 3), 0);
     }
 
     private static void cartHours() {
