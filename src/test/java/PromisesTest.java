@@ -455,38 +455,12 @@ public final class PromisesTest {
         rain[1] = 4;
         rain[3] = 2;
         for (int i = 0; i < 6; i++) {
-            Check.same("digest", x.digest(), digestByFace(x, rain));
+            Check.same("digest", x.digest(), Lands.digestOf(x, rain));
             x.pass(1 + 7 * i);
         }
         x.setRain(23, 8);
         rain[23] = 8;
-        Check.same("digest", x.digest(), digestByFace(x, rain));
-        Check.same("digest again", x.digest(), digestByFace(x, rain));
-    }
-
-    private static long digestByFace(UmbrellaLand x, int[] rain) {
-        long d = 569;
-        for (int what = 0; what <= 10; what++) {
-            d = d * 31 + x.count(what);
-        }
-        for (int amount : rain) {
-            d = d * 31 + amount;
-        }
-        for (int i = 0; i < x.count(1); i++) {
-            for (int what = 0; what <= 7; what++) {
-                d = d * 31 + x.shelter(i, what);
-            }
-        }
-        for (int i = 0; i < x.count(2); i++) {
-            for (int what = 0; what <= 5; what++) {
-                d = d * 31 + x.umbrella(i, what);
-            }
-        }
-        for (int i = 0; i < x.count(3); i++) {
-            for (int what = 0; what <= 9; what++) {
-                d = d * 31 + x.citizen(i, what);
-            }
-        }
-        return d;
+        Check.same("digest", x.digest(), Lands.digestOf(x, rain));
+        Check.same("digest again", x.digest(), Lands.digestOf(x, rain));
     }
 }
