@@ -1,3 +1,5 @@
+import java.util.function.Supplier;
+
 /** What the promises answer where there is none, all, or just enough. */
 final class AnswerSentences {
     private AnswerSentences() {
@@ -420,34 +422,45 @@ final class AnswerSentences {
 
     @Sentence(of = "Promise 12", says = "Returns this, if so many hours went by (nothing is changed).")
     static void foreseen() {
-        checkForeseen(Lands.fullAndWet(), Lands.fullAndWet());
-        checkForeseen(Lands.half(), Lands.half());
-        checkForeseen(Lands.commuter(2, 1, 0), Lands.commuter(2, 1, 0));
-        checkForeseen(Lands.shelters(0, 10), Lands.shelters(0, 10));
-        UmbrellaLand x = Lands.half();
-        UmbrellaLand twin = Lands.half();
-        x.pass(21);
-        twin.pass(21);
-        checkForeseen(x, twin);
+        checkForeseen(Lands::fullAndWet);
+        checkForeseen(Lands::half);
+        checkForeseen(() -> Lands.commuter(2, 1, 0));
+        checkForeseen(() -> Lands.shelters(0, 10));
+        checkForeseen(() -> Lands.behind(21, Lands::half));
     }
 
-    private static void checkForeseen(UmbrellaLand x, UmbrellaLand twin) {
-        long before = x.digest();
-        for (int hours = 1; hours <= 100; hours++) {
-            twin.pass(1);
-            int trust = 0;
-            for (int i = 0; i < twin.count(3); i++) {
-                trust += twin.citizen(i, 5);
+    private static void checkForeseen(Supplier<UmbrellaLand> land) {
+        for (int what = 0; what <= 4; what++) {
+            UmbrellaLand x = land.get();
+            long before = x.digest();
+            for (int hours = 1; hours <= 100; hours++) {
+                UmbrellaLand twin = Lands.behind(hours, land);
+                Check.same("foresee(" + hours + ", " + what + ")", x.foresee(hours, what), told(twin, what));
             }
-            Check.same("how wet in " + hours, x.foresee(hours, 0), twin.count(9));
-            Check.same("in shelters in " + hours, x.foresee(hours, 1), twin.count(4));
-            Check.same("forgotten in " + hours, x.foresee(hours, 2), twin.count(6));
-            Check.same("broken in " + hours, x.foresee(hours, 3), twin.count(7));
-            Check.same("all trust in " + hours, x.foresee(hours, 4), trust);
+            Check.same("nothing is changed", x.digest(), before);
+            x.pass(100);
+            Check.same("also nothing that comes later", x.digest(), Lands.behind(100, land).digest());
         }
-        Check.same("nothing is changed", x.digest(), before);
-        x.pass(100);
-        Check.same("also nothing that comes later", x.digest(), twin.digest());
+    }
+
+    /** What foresee tells, of a land as it is now. */
+    private static int told(UmbrellaLand x, int what) {
+        switch (what) {
+            case 0:
+                return x.count(9);
+            case 1:
+                return x.count(4);
+            case 2:
+                return x.count(6);
+            case 3:
+                return x.count(7);
+            default:
+                int trust = 0;
+                for (int i = 0; i < x.count(3); i++) {
+                    trust += x.citizen(i, 5);
+                }
+                return trust;
+        }
     }
 
     // ---- promise 13: advise
@@ -745,16 +758,15 @@ final class AnswerSentences {
 
     @Sentence(of = "Promise 17", says = "which wraps around as a 64-bit integer")
     static void digestOfFull() {
-        UmbrellaLand x = Lands.fullAndWet();
-        int[] rain = Lands.rainOf(x);
         boolean wasNegative = false;
         boolean wasPositive = false;
-        for (int hour = 0; hour < 60; hour++) {
-            Check.same("as the parts tell it", x.digest(), Lands.digestOf(x, rain));
-            Check.same("told again", x.digest(), x.digest());
-            wasNegative |= x.digest() < 0;
-            wasPositive |= x.digest() > 0;
-            x.pass(1);
+        for (int hours = 0; hours < 60; hours++) {
+            UmbrellaLand x = Lands.behind(hours, Lands::fullAndWet);
+            long due = Lands.digestOf(x, Lands.autumn());
+            Check.same("as the parts tell it", x.digest(), due);
+            Check.same("told again", x.digest(), due);
+            wasNegative |= due < 0;
+            wasPositive |= due > 0;
         }
         Check.same("some are negative, some are not", wasNegative && wasPositive, true);
     }

@@ -1,6 +1,10 @@
 import java.math.BigInteger;
+import java.util.function.Supplier;
 
-/** Lands that tests begin with, and what they ask of them again and again. */
+/**
+ * Lands that tests begin with, and what they ask of them again and again. An object answers for 512 calls
+ * alone, so a test that asks much makes a new one for each hour that it looks at.
+ */
 final class Lands {
     private Lands() {
     }
@@ -64,8 +68,26 @@ final class Lands {
     /** The full one in a wet autumn. */
     static UmbrellaLand fullAndWet() {
         UmbrellaLand x = full();
+        int[] rain = autumn();
         for (int hour = 0; hour < 24; hour++) {
-            x.setRain(hour, Math.max(0, hour * 7 % 13 - 3));
+            x.setRain(hour, rain[hour]);
+        }
+        return x;
+    }
+
+    static int[] autumn() {
+        int[] rain = new int[24];
+        for (int hour = 0; hour < 24; hour++) {
+            rain[hour] = Math.max(0, hour * 7 % 13 - 3);
+        }
+        return rain;
+    }
+
+    /** Such a land as it is when so many hours, 0 to 100, have gone by. */
+    static UmbrellaLand behind(int hours, Supplier<UmbrellaLand> land) {
+        UmbrellaLand x = land.get();
+        if (hours > 0) {
+            x.pass(hours);
         }
         return x;
     }
@@ -93,17 +115,20 @@ final class Lands {
         for (int amount : rain) {
             d = next(d, amount);
         }
-        for (int i = 0; i < x.count(1); i++) {
+        int shelters = x.count(1);
+        for (int i = 0; i < shelters; i++) {
             for (int what = 0; what <= 7; what++) {
                 d = next(d, x.shelter(i, what));
             }
         }
-        for (int i = 0; i < x.count(2); i++) {
+        int umbrellas = x.count(2);
+        for (int i = 0; i < umbrellas; i++) {
             for (int what = 0; what <= 5; what++) {
                 d = next(d, x.umbrella(i, what));
             }
         }
-        for (int i = 0; i < x.count(3); i++) {
+        int citizens = x.count(3);
+        for (int i = 0; i < citizens; i++) {
             for (int what = 0; what <= 9; what++) {
                 d = next(d, x.citizen(i, what));
             }
@@ -113,15 +138,5 @@ final class Lands {
 
     private static BigInteger next(BigInteger d, int number) {
         return d.multiply(BigInteger.valueOf(31)).add(BigInteger.valueOf(number));
-    }
-
-    /** How it rains, without changing it. */
-    static int[] rainOf(UmbrellaLand x) {
-        int[] rain = new int[24];
-        for (int hour = 0; hour < 24; hour++) {
-            rain[hour] = x.setRain(hour, 0);
-            x.setRain(hour, rain[hour]);
-        }
-        return rain;
     }
 }

@@ -7,7 +7,7 @@ import java.lang.annotation.Target;
 @Retention(RetentionPolicy.RUNTIME)
 @Target(ElementType.METHOD)
 @interface Sentence {
-    /** Where it stands: "Terms", "Step 1" to "Step 6", or "Promise 1" to "Promise 17". */
+    /** Where it stands: one of Document.parts(). */
     String of();
 
     /** Its words, or those of it that name the case, just as they stand there. */

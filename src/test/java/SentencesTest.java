@@ -9,7 +9,8 @@ import java.util.Set;
 /** Each sentence of the document that names a boundary case, by the test that bears it. */
 public final class SentencesTest {
     private static final Class<?>[] TESTS = {
-        TermsSentences.class, StepsSentences.class, RefusalSentences.class, AnswerSentences.class,
+        FrameSentences.class, TermsSentences.class, StepsSentences.class, RefusalSentences.class,
+        AnswerSentences.class,
     };
 
     private final Document document;
@@ -20,7 +21,7 @@ public final class SentencesTest {
     }
 
     public static void main(String[] args) throws IOException {
-        new SentencesTest(new Document("../shared/DOC.md")).run();
+        new SentencesTest(new Document(Document.FILE)).run();
         Check.end("SentencesTest");
     }
 

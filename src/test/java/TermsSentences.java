@@ -141,13 +141,9 @@ final class TermsSentences {
 
     @Sentence(of = "Terms", says = "is in a shelter, in the hand of a citizen, forgotten, or broken")
     static void oneStateEach() {
-        UmbrellaLand x = Lands.fullAndWet();
-        for (int i = 0; i < 8; i++) {
-            x.setDemand(i, 0);
-        }
         int[] seen = new int[4];
-        for (int hour = 0; hour < 100; hour++) {
-            x.pass(1);
+        for (int hours = 1; hours <= 100; hours++) {
+            UmbrellaLand x = Lands.behind(hours, TermsSentences::fullAndTrusting);
             int[] many = new int[4];
             for (int i = 0; i < 40; i++) {
                 many[x.umbrella(i, 0)]++;
@@ -160,6 +156,14 @@ final class TermsSentences {
         for (int state = 0; state < 4; state++) {
             Check.same("the state " + state + " is seen", seen[state] > 0, true);
         }
+    }
+
+    private static UmbrellaLand fullAndTrusting() {
+        UmbrellaLand x = Lands.fullAndWet();
+        for (int i = 0; i < 8; i++) {
+            x.setDemand(i, 0);
+        }
+        return x;
     }
 
     @Sentence(of = "Terms", says = "of those in a shelter the first one is that with the least wear")
@@ -352,11 +356,11 @@ final class TermsSentences {
 
     @Sentence(of = "Terms", says = "A method that throws an exception changes nothing.")
     static void refusedCallsChangeNothing() {
-        UmbrellaLand full = Lands.fullAndWet();
-        UmbrellaLand fullTwin = Lands.fullAndWet();
-        UmbrellaLand half = Lands.half();
-        UmbrellaLand halfTwin = Lands.half();
-        for (int hour = 0; hour < 72; hour++) {
+        for (int hours = 0; hours < 72; hours++) {
+            UmbrellaLand full = Lands.behind(hours, Lands::fullAndWet);
+            UmbrellaLand fullTwin = Lands.behind(hours, Lands::fullAndWet);
+            UmbrellaLand half = Lands.behind(hours, Lands::half);
+            UmbrellaLand halfTwin = Lands.behind(hours, Lands::half);
             RefusedCalls.beAskedOf(full);
             RefusedCalls.beAskedOfFull(full);
             RefusedCalls.beAskedOf(half);
